@@ -770,7 +770,7 @@ public final class PocketConsole {
 
     private void lookAtLine() {
         int mode = state[MODE];
-        boolean byMode = mode < 3 && (state[STAT] >> 3 + mode & 1) == 1;
+        boolean byMode = mode < 3 && (state[STAT] >> (3 + mode) & 1) == 1;
         boolean byLine = state[LY] == state[LYC] && (state[STAT] & 64) != 0;
         int line = isOn(VIDEO_ON) && (byMode || byLine) ? 1 : 0;
         if (line > state[LINE]) {
@@ -869,7 +869,7 @@ public final class PocketConsole {
             fetchStrip();
         }
         state[STRIP_LEFT]--;
-        int stripPixel = state[STRIP] >> 2 * state[STRIP_LEFT] & 3;
+        int stripPixel = state[STRIP] >> (2 * state[STRIP_LEFT]) & 3;
         if (state[DROP] > 0) {
             state[DROP]--;
         } else {
@@ -961,6 +961,6 @@ public final class PocketConsole {
         if (place >= state[TAKEN] || state[FETCHED + place] == 0 || column < 0 || column > 3) {
             return 0;
         }
-        return state[FETCHED_PIXELS + place] >> 6 - 2 * column & 3;
+        return state[FETCHED_PIXELS + place] >> (6 - 2 * column) & 3;
     }
 }

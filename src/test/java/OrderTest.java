@@ -8,6 +8,7 @@ public final class OrderTest {
         timerBeforeProcessor();
         copyingBeforeVideo();
         videoBeforeProcessor();
+        bitsOfIfStay();
         Checks.end();
     }
 
@@ -134,6 +135,30 @@ public final class OrderTest {
             c.run(1);
             Checks.due("TAKEN at DOT 0 in cycle " + (22 + late), c.video(3), late == 0 ? 0 : 1);
         }
+    }
+
+    private static void bitsOfIfStay() {
+        // Each source turns on its own bit, and leaves the others as they were written: all but that one.
+        PocketConsole key = Checks.with(Scenes.writes(245, 15));
+        key.run(5);
+        key.keys(2);
+        Checks.due("IF with a key", key.cell(245), 31);
+        PocketConsole reload = Checks.with(Scenes.writes(245, 27, 242, 255, 244, 5));
+        Checks.put(reload, 12, 1);
+        reload.run(16);
+        Checks.due("IF before the RELOAD", reload.cell(245), 27);
+        reload.run(1);
+        Checks.due("IF with the RELOAD", reload.cell(245), 31);
+        PocketConsole line = Scenes.on(1, 245, 29, 252, 1, 248, 64);
+        line.run(28);
+        Checks.due("IF before the LINE", line.cell(245), 29);
+        line.run(1);
+        Checks.due("IF with the LINE", line.cell(245), 31);
+        PocketConsole picture = Scenes.on(1, 245, 30);
+        picture.run(224);
+        Checks.due("IF before the picture", picture.cell(245), 30);
+        picture.run(1);
+        Checks.due("IF with the picture", picture.cell(245), 31);
     }
 
     private static void videoBeforeProcessor() {

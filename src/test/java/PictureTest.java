@@ -13,6 +13,7 @@ public final class PictureTest {
         spriteLooks();
         spritesOverSprites();
         spritesBehind();
+        twoOfTheirOwn();
         atMostTwo();
         whatIsKeptOfSprites();
         writingInTheMiddle();
@@ -162,6 +163,12 @@ public final class PictureTest {
         Scenes.dueLine("without", d, 2, "000000000000");
         Scenes.dueLine("w 1", d, 3, "003210321032");
         Scenes.dueLine("w 2", d, 4, "001111111111");
+        // The map's columns and rows, all different: 1 2 3 0, then 2 3 0 1.
+        PocketConsole e = windowed(11, 255, 1);
+        Checks.put(e, 180, 2, 3, 0, 1);
+        e.run(TO_LINE_8);
+        Scenes.dueLine("the map's first row", e, 3, "011112222333");
+        Scenes.dueLine("the map's second row", e, 4, "022223333000");
         // The next picture begins with w 0 again.
         d.run(336);
         Scenes.dueLine("w 0 in the next picture", d, 0, "000123012301");
@@ -253,6 +260,24 @@ public final class PictureTest {
         Scenes.dueLine("behind nothing", e, 0, "000555500000");
     }
 
+    private static void twoOfTheirOwn() {
+        // Two sprites with rows, looks and places of their own; tile 2 has rows 1232, 3111, 2223, 1321.
+        PocketConsole c = patterned(13);
+        Scenes.tile(c, 2, 110, 213, 171, 121);
+        Checks.put(c, 192, 1, 1, 2, 0, 0, 6, 2, 7);
+        c.run(TO_LINE_8);
+        // Line 0: the second one alone, row 3 from right to left (1231), behind 0123..: seen at x 8.
+        Scenes.dueLine("the second alone", c, 0, "012301237123");
+        // Line 1: the first one's row 0 (5676); the second one's row 2 from right to left (3222), seen at x 7.
+        Scenes.dueLine("both", c, 1, "356762163210");
+        PocketConsole d = patterned(13);
+        Scenes.tile(d, 2, 110, 213, 171, 121);
+        Checks.put(d, 192, 0, 6, 2, 4, 0, 1, 2, 0);
+        d.run(TO_LINE_8);
+        // Line 0: the first behind (1232 at 6 to 9, seen where the background is 0: x 8), the second in front at 1.
+        Scenes.dueLine("the other way", d, 0, "056761237123");
+    }
+
     private static void atMostTwo() {
         PocketConsole c = patterned(5);
         Scenes.tile(c, 2, 85, 85, 85, 85);
@@ -327,6 +352,19 @@ public final class PictureTest {
         h.run(TO_LINE_8);
         Scenes.dueLine("WX in time", h, 0, "000001111222");
         twoWindows();
+        spriteSwitchedOnTooLate();
+    }
+
+    private static void spriteSwitchedOnTooLate() {
+        // Sprites on from DOT 9 on, with x 5 to be drawn: the one at 4 was not fetched, so it is not seen; that at 6 is.
+        PocketConsole c = Scenes.onThen(Scenes.writeAtDot(8, 247, 5), 1);
+        fillPattern(c);
+        Scenes.tile(c, 2, 85, 85, 85, 85);
+        Checks.put(c, 192, 0, 4, 2, 0, 0, 6, 2, 0);
+        c.run(28);
+        Checks.due("TAKEN", c.video(3), 2);
+        c.run(TO_LINE_8 - 28);
+        Scenes.dueLine("sprites on at DOT 8", c, 0, "000000555500");
     }
 
     private static void twoWindows() {
@@ -404,6 +442,16 @@ public final class PictureTest {
     }
 
     private static void pictureWraps() {
+        // The first pixel alone, 5: so many times 31 to the 95th, as longs wrap.
+        PocketConsole d = patterned(5);
+        Scenes.tile(d, 2, 64, 0, 0, 0);
+        Checks.put(d, 192, 0, 0, 2, 0);
+        d.run(TO_LINE_8);
+        long due = 5;
+        for (int i = 0; i < 95; i++) {
+            due *= 31;
+        }
+        Checks.due("the first pixel alone", d.picture(), due);
         PocketConsole c = patterned(13);
         Checks.put(c, 192, 1, 1, 1, 0, 3, 6, 1, 1);
         c.run(TO_LINE_8);
