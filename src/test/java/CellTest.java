@@ -6,6 +6,7 @@ public final class CellTest {
         shutInMode3();
         shutInMode2();
         openInModes0And1();
+        neverShutForCell();
         Checks.end();
     }
 
@@ -42,55 +43,30 @@ public final class CellTest {
         Checks.due("STAT, LY is LYC", d.cell(248), 4);
     }
 
-    /** What the processor reads at a in the cycle of this DOT (2 or more). */
-    private static int readAtDot(int dot, int a) {
-        int[] program = new int[dot + 2];
-        program[dot - 2] = 13;
-        program[dot - 1] = a;
-        program[dot] = 1;
-        PocketConsole c = Scenes.onThen(program, 1);
-        c.put(a, 42);
-        c.run(dot + 1);
-        Checks.due("DOT", c.video(0), dot);
-        Checks.due("cell(" + a + ") is never shut", c.cell(a), 42);
-        return c.cpu(0);
-    }
-
-    /** What cell a has after the processor wrote 1 there in the cycle of this DOT (2 or more), 42 before. */
-    private static int writtenAtDot(int dot, int a) {
-        int[] program = new int[dot + 2];
-        program[dot - 2] = 14;
-        program[dot - 1] = a;
-        program[dot] = 1;
-        PocketConsole c = Scenes.onThen(program, 1);
-        c.put(a, 42);
-        c.run(dot + 1);
-        return c.cell(a);
-    }
-
     private static void shutInMode3() {
         // MODE 3 is DOTS 4 to 15 here.
         for (int dot : new int[] {4, 9, 15}) {
             for (int a : new int[] {128, 159, 160, 176, 191, 192, 207}) {
-                Checks.due("read " + a + " in MODE 3, DOT " + dot, readAtDot(dot, a), 255);
-                Checks.due("write " + a + " in MODE 3, DOT " + dot, writtenAtDot(dot, a), 42);
+                Checks.due("read " + a + " in MODE 3, DOT " + dot, Scenes.readAtDot(dot, a), 255);
+                Checks.due("write " + a + " in MODE 3, DOT " + dot, Scenes.writtenAtDot(dot, a), 42);
             }
             for (int a : new int[] {100, 127, 208, 239}) {
-                Checks.due("read " + a + " in MODE 3, DOT " + dot, readAtDot(dot, a), 42);
-                Checks.due("write " + a + " in MODE 3, DOT " + dot, writtenAtDot(dot, a), 1);
+                Checks.due("read " + a + " in MODE 3, DOT " + dot, Scenes.readAtDot(dot, a), 42);
+                Checks.due("write " + a + " in MODE 3, DOT " + dot, Scenes.writtenAtDot(dot, a), 1);
             }
         }
     }
 
     private static void shutInMode2() {
-        for (int dot : new int[] {2, 3}) {
+        // These are DOTS of line 1.
+        for (int dot : new int[] {28, 29, 31}) {
             for (int a : new int[] {192, 207}) {
-                Checks.due("read " + a + " in MODE 2, DOT " + dot, readAtDot(dot, a), 255);
-                Checks.due("write " + a + " in MODE 2, DOT " + dot, writtenAtDot(dot, a), 42);
+                Checks.due("read " + a + " in MODE 2, DOT " + dot, Scenes.readAtDot(dot, a), 255);
+                Checks.due("write " + a + " in MODE 2, DOT " + dot, Scenes.writtenAtDot(dot, a), 42);
             }
             for (int a : new int[] {100, 128, 191, 208}) {
-                Checks.due("read " + a + " in MODE 2, DOT " + dot, readAtDot(dot, a), 42);
-                Checks.due("write " + a + " in MODE 2, DOT " + dot, writtenAtDot(dot, a), 1);
+                Checks.due("read " + a + " in MODE 2, DOT " + dot, Scenes.readAtDot(dot, a), 42);
+                Checks.due("write " + a + " in MODE 2, DOT " + dot, Scenes.writtenAtDot(dot, a), 1);
             }
         }
     }
@@ -98,13 +74,13 @@ public final class CellTest {
     private static void openInModes0And1() {
         for (int dot : new int[] {16, 27}) {
             for (int a : new int[] {128, 191, 192, 207}) {
-                Checks.due("read " + a + " in MODE 0, DOT " + dot, readAtDot(dot, a), 42);
-                Checks.due("write " + a + " in MODE 0, DOT " + dot, writtenAtDot(dot, a), 1);
+                Checks.due("read " + a + " in MODE 0, DOT " + dot, Scenes.readAtDot(dot, a), 42);
+                Checks.due("write " + a + " in MODE 0, DOT " + dot, Scenes.writtenAtDot(dot, a), 1);
             }
         }
         // DOT 0 of the next line: MODE 2 again.
-        Checks.due("write 192 in DOT 0 of line 1", writtenAtDotOfLine1(192), 42);
-        Checks.due("write 191 in DOT 0 of line 1", writtenAtDotOfLine1(191), 1);
+        Checks.due("write 192 in DOT 0 of line 1", Scenes.writtenAtDot(28, 192), 42);
+        Checks.due("write 191 in DOT 0 of line 1", Scenes.writtenAtDot(28, 191), 1);
         // MODE 1: HALT until line 8's interrupt, then write.
         PocketConsole c = Scenes.onThen(new int[] {1, 14, 192, 14, 128, 1}, 1, 246, 1);
         c.run(300);
@@ -112,15 +88,13 @@ public final class CellTest {
         Checks.due("written 128 in MODE 1", c.cell(128), 1);
     }
 
-    private static int writtenAtDotOfLine1(int a) {
-        int[] program = new int[30];
-        program[26] = 14;
-        program[27] = a;
-        program[28] = 1;
-        PocketConsole c = Scenes.onThen(program, 1);
-        c.put(a, 42);
-        c.run(29);
-        Checks.due("LY", c.cell(251), 1);
-        return c.cell(a);
+    private static void neverShutForCell() {
+        PocketConsole c = Scenes.on(1);
+        c.run(10);
+        Checks.due("MODE", c.video(1), 3);
+        for (int a : new int[] {127, 128, 191, 192, 207, 208}) {
+            c.put(a, 42);
+            Checks.due("cell(" + a + ") in MODE 3", c.cell(a), 42);
+        }
     }
 }

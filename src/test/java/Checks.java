@@ -2,15 +2,21 @@
 final class Checks {
     private static int wrong = 0;
     private static int made = 0;
+    private static String sentence = "";
 
     private Checks() {
+    }
+
+    /** The words of the document that the checks after this are for: they are told with what is not as due. */
+    static void sentence(String words) {
+        sentence = "\"" + words + "\": ";
     }
 
     static void due(String what, long got, long want) {
         made++;
         if (got != want) {
             wrong++;
-            System.out.println(what + " is " + got + ", due is " + want);
+            System.out.println(sentence + what + " is " + got + ", due is " + want);
         }
     }
 

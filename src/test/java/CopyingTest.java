@@ -12,20 +12,9 @@ public final class CopyingTest {
         Checks.end();
     }
 
-    /** A program in cells 208 on, which copying does not shut off; cell a of 0..191 has a, but for 255. */
-    private static PocketConsole from208(int... program) {
-        PocketConsole c = new PocketConsole();
-        for (int a = 0; a < 192; a++) {
-            c.put(a, a);
-        }
-        Checks.put(c, 208, program);
-        c.reset(208);
-        return c;
-    }
-
     private static void copiesInItsCycles() {
         // DMA is written in cycle 5; cells are copied in 7 to 22.
-        PocketConsole c = from208(16, 3, 14, 253, 1);
+        PocketConsole c = Scenes.from208(16, 3, 14, 253, 1);
         c.run(2);
         Checks.due("nothing to copy", c.timer(2), 0);
         c.run(3);
@@ -50,7 +39,7 @@ public final class CopyingTest {
 
     private static void copiesFromEverywhere() {
         for (int n : new int[] {0, 1, 7, 8, 11, 13, 14, 16, 17, 251}) {
-            PocketConsole c = from208(16, n, 14, 253, 1);
+            PocketConsole c = Scenes.from208(16, n, 14, 253, 1);
             c.put(239, 33);
             c.run(30);
             for (int k = 0; k < 16; k++) {
@@ -58,18 +47,18 @@ public final class CopyingTest {
             }
         }
         // Registers count as 255; sprites onto themselves stay.
-        PocketConsole c = from208(16, 255, 14, 253, 1);
+        PocketConsole c = Scenes.from208(16, 255, 14, 253, 1);
         c.run(30);
         for (int k = 0; k < 16; k++) {
             Checks.due("cell " + k + " copied with 255", c.cell(192 + k), 255);
         }
-        PocketConsole d = from208(16, 12, 14, 253, 1);
+        PocketConsole d = Scenes.from208(16, 12, 14, 253, 1);
         Checks.put(d, 192, 1, 2, 3, 4);
         d.run(30);
         Checks.due("cell 193 copied onto itself", d.cell(193), 2);
         Checks.due("cells copied", d.count(5), 16);
         // A cell put before its turn is copied as it is then.
-        PocketConsole e = from208(16, 3, 14, 253, 1);
+        PocketConsole e = Scenes.from208(16, 3, 14, 253, 1);
         e.run(10);
         e.put(48, 200);
         e.put(60, 201);
@@ -81,23 +70,23 @@ public final class CopyingTest {
     private static void shutsCells() {
         // 13 n: its reading is in cycle 8, in the middle of copying.
         for (int a : new int[] {0, 5, 127, 128, 191, 192, 207}) {
-            PocketConsole c = from208(16, 3, 14, 253, 13, a, 1);
+            PocketConsole c = Scenes.from208(16, 3, 14, 253, 13, a, 1);
             c.run(8);
             Checks.due("read " + a, c.cpu(0), 255);
-            PocketConsole d = from208(16, 3, 14, 253, 14, a, 1);
+            PocketConsole d = Scenes.from208(16, 3, 14, 253, 14, a, 1);
             d.run(8);
             Checks.due("write " + a + " is lost", d.cell(a), a == 192 ? 48 : a < 192 ? a : 0);
         }
         for (int a : new int[] {208, 239}) {
-            PocketConsole c = from208(16, 3, 14, 253, 13, a, 1);
+            PocketConsole c = Scenes.from208(16, 3, 14, 253, 13, a, 1);
             c.put(239, 16);
             c.run(8);
             Checks.due("read " + a, c.cpu(0), 16);
-            PocketConsole d = from208(16, 3, 14, 253, 14, a, 1);
+            PocketConsole d = Scenes.from208(16, 3, 14, 253, 14, a, 1);
             d.run(8);
             Checks.due("write " + a, d.cell(a), 3);
         }
-        PocketConsole c = from208(16, 3, 14, 253, 14, 252, 13, 253, 1);
+        PocketConsole c = Scenes.from208(16, 3, 14, 253, 14, 252, 13, 253, 1);
         c.run(11);
         Checks.due("registers can be written", c.cell(252), 3);
         Checks.due("and read", c.cpu(0), 3);
@@ -105,7 +94,7 @@ public final class CopyingTest {
 
     private static void openBeforeAndAfter() {
         // 23: A becomes the cell at P, read in its second cycle: DMA is written in cycle 7, and 9 is the first of copying.
-        PocketConsole c = from208(18, 9, 16, 3, 14, 253, 23, 1);
+        PocketConsole c = Scenes.from208(18, 9, 16, 3, 14, 253, 23, 1);
         c.run(9);
         Checks.due("read in the first cycle of copying", c.cpu(0), 255);
         // Copying is in cycles 9 to 24; the reading is in 24, and then in 25.
@@ -115,7 +104,7 @@ public final class CopyingTest {
             int[] later = program.clone();
             later[6 + 15 + more] = 23;
             later[6 + 16 + more] = 1;
-            PocketConsole d = from208(later);
+            PocketConsole d = Scenes.from208(later);
             d.run(7 + 15 + more + 2);
             Checks.due("read in cycle " + (24 + more), d.cpu(0), more == 0 ? 255 : 9);
         }
@@ -136,7 +125,7 @@ public final class CopyingTest {
 
     private static void laterCopyingTakesOver() {
         // DMA is written in cycles 6 and 10: cells are copied in 8 to 11 from 48 on, and in 12 to 27 from 16 on.
-        PocketConsole c = from208(18, 253, 16, 3, 27, 16, 1, 27, 1);
+        PocketConsole c = Scenes.from208(18, 253, 16, 3, 27, 16, 1, 27, 1);
         c.run(10);
         Checks.due("cells to copy in cycle 10", c.timer(2), 13);
         c.run(1);
@@ -156,7 +145,7 @@ public final class CopyingTest {
         System.arraycopy(new int[] {18, 253, 16, 3, 27, 16, 1}, 0, program, 0, 7);
         program[7 + 13] = 27;
         program[7 + 14] = 1;
-        PocketConsole d = from208(program);
+        PocketConsole d = Scenes.from208(program);
         d.run(8 + 13 + 2);
         Checks.due("cells to copy in cycle 23", d.timer(2), 16);
         Checks.due("cells copied", d.count(5), 16);
@@ -169,7 +158,7 @@ public final class CopyingTest {
 
     private static void laterCopyingAtOnce() {
         // Written in cycles 6 and 8: the first has two cells.
-        PocketConsole c = from208(18, 253, 16, 3, 27, 27, 1);
+        PocketConsole c = Scenes.from208(18, 253, 16, 3, 27, 27, 1);
         c.run(8);
         Checks.due("cells to copy in cycle 8", c.timer(2), 15);
         c.run(1);
@@ -182,7 +171,7 @@ public final class CopyingTest {
 
     private static void interruptsAreShutOff() {
         // An INTERRUPT that writes PC at 99 while cells are copied: it is lost. A becomes 16 for IE, 3 for DMA.
-        PocketConsole c = from208(15, 100, 16, 16, 14, 246, 16, 3, 3, 14, 253, 0, 0, 0, 0);
+        PocketConsole c = Scenes.from208(15, 100, 16, 16, 14, 246, 16, 3, 3, 14, 253, 0, 0, 0, 0);
         c.run(14);
         c.keys(1);
         Checks.due("the INTERRUPT", c.run(1), 3);

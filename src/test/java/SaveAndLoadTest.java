@@ -90,17 +90,17 @@ public final class SaveAndLoadTest {
         c.keys(9);
         Checks.due("something is shown", c.picture() != 0, true);
         long picture = c.picture();
-        int[] cells = new int[128];
-        for (int a = 0; a < 128; a++) {
+        int[] cells = new int[100];
+        for (int a = 0; a < 100; a++) {
             cells[a] = c.cell(a);
         }
         c.save(0);
         c.keys(6);
-        for (int a = 0; a < 128; a++) {
+        for (int a = 0; a < 100; a++) {
             c.put(a, 1);
         }
         c.load(0);
-        for (int a = 0; a < 128; a++) {
+        for (int a = 0; a < 100; a++) {
             Checks.due("cell " + a + " after load", c.cell(a), cells[a]);
         }
         Checks.due("picture after load", c.picture(), picture);

@@ -45,6 +45,53 @@ final class Scenes {
         return program;
     }
 
+    /**
+     * A console with the video on that begins this program in the cycle of this DOT (2 or more), counted from the
+     * first one: it WAITS until then, and a key wakes it. Bit 4 of IF and of IE is on then, IME off.
+     */
+    static PocketConsole onAt(int first, int[] program, int lcdc, int... pairs) {
+        int[] all = new int[pairs.length + 2];
+        System.arraycopy(pairs, 0, all, 2, pairs.length);
+        all[0] = 246;
+        all[1] = 16;
+        PocketConsole c = on(lcdc, all);
+        Checks.put(c, c.cpu(4) + 1, program);
+        c.run(first - 1);
+        c.keys(1);
+        c.run(1);
+        if (c.count(0) != all.length / 2 * 5 + 5 + first || c.cpu(7) != 0) {
+            throw new IllegalStateException("the program does not begin at DOT " + first);
+        }
+        return c;
+    }
+
+    /** What the processor reads at a, where 42 is, in the cycle of this DOT (4 or more), counted from the first one. */
+    static int readAtDot(int dot, int a) {
+        PocketConsole c = onAt(dot - 2, new int[] {13, a}, 1);
+        c.put(a, 42);
+        c.run(3);
+        return c.cpu(0);
+    }
+
+    /** What cell a, 42 before, has after the processor wrote 1 there in the cycle of this DOT (4 or more). */
+    static int writtenAtDot(int dot, int a) {
+        PocketConsole c = onAt(dot - 2, new int[] {14, a}, 1);
+        c.put(a, 42);
+        c.run(3);
+        return c.cell(a);
+    }
+
+    /** A program in cells 208 on, which copying does not shut off; cell a of 0..191 has a. */
+    static PocketConsole from208(int... program) {
+        PocketConsole c = new PocketConsole();
+        for (int a = 0; a < 192; a++) {
+            c.put(a, a);
+        }
+        Checks.put(c, 208, program);
+        c.reset(208);
+        return c;
+    }
+
     /** Gives a tile its four rows. */
     static void tile(PocketConsole c, int tile, int... rows) {
         Checks.put(c, 128 + 4 * tile, rows);

@@ -307,7 +307,9 @@ public final class VideoTest {
     private static void lineGoesOnByLy() {
         Checks.due("LY 0 when switched on", firstLineBit(Scenes.on(1, 252, 0, 248, 64), 50), -1);
         Checks.due("LY 2", firstLineBit(Scenes.on(1, 252, 2, 248, 64), 90), 56);
-        Checks.due("LY 12 is never", firstLineBit(Scenes.on(1, 252, 12, 248, 64), 250), 9999);
+        PocketConsole c = Scenes.on(1, 252, 12, 248, 64);
+        c.run(400);
+        Checks.due("LY 12 is never", c.cell(245), 1);
     }
 
     private static void lineStaysOn() {
