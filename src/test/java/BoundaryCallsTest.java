@@ -60,6 +60,10 @@ public final class BoundaryCallsTest {
         Checks.sentence("It reads as these two bits (as written), and bit j is on if no chosen key j or 4 + j is down.");
         Checks.due("PAD after 255", withPad(255).cell(240), 63);
         Checks.due("PAD after 192", withPad(192).cell(240), 15);
+        Checks.due("PAD after 15", withPad(15).cell(240), 15);
+        PocketConsole d = withPad(207);
+        d.keys(1 + 32);
+        Checks.due("PAD after 207, with keys 0 and 5", d.cell(240), 12);
         PocketConsole c = withPad(0);
         c.keys(255);
         Checks.due("PAD with all down", c.cell(240), 0);
@@ -82,6 +86,11 @@ public final class BoundaryCallsTest {
             c.keys(1 + more);
             Checks.due("IF with " + more + " more", c.cell(245), more == 2 || more == 32 ? 16 : 0);
         }
+        // The other bits of IF stay.
+        PocketConsole e = Checks.with(Scenes.writes(245, 15));
+        e.run(5);
+        e.keys(1);
+        Checks.due("IF with 15 before", e.cell(245), 31);
         // One bit on and another off in one call.
         PocketConsole c = Checks.with(Scenes.writes(245, 0));
         c.keys(1);
@@ -580,7 +589,9 @@ public final class BoundaryCallsTest {
         c.keys(0);
         c.stop(201);
         c.run(500);
+        c.put(0, 1);
         c.put(128, 1);
+        c.put(239, 1);
         c.reset(3);
         c.load(0);
         Checks.sentence("All is as it was saved.");

@@ -234,6 +234,17 @@ public final class BoundaryPictureTest {
                 Scenes.dueLine("look " + look, c, row, rows[(look & 2) == 0 ? row : 3 - row]);
             }
         }
+        // Each pixel by itself.
+        for (int colour = 1; colour < 4; colour++) {
+            PocketConsole c = scene(5);
+            Scenes.tile(c, 5, colour, colour * 4, colour * 16, colour * 64);
+            Checks.put(c, 192, 0, 0, 5, 1);
+            c.run(TO_LINE_8);
+            for (int row = 0; row < 4; row++) {
+                String zeros = "0".repeat(row);
+                Scenes.dueLine("one pixel", c, row, zeros + (4 + colour) + "0".repeat(11 - row));
+            }
+        }
     }
 
     private static void fetchedAsItIsNow() {
@@ -288,8 +299,9 @@ public final class BoundaryPictureTest {
 
     private static void leastXThenLeast() {
         Checks.sentence("the one with the least X counts, of these the least");
-        int[][] xs = {{3, 4}, {4, 3}, {3, 3}, {3, 6}, {3, 7}, {6, 3}};
-        String[] rows = {"000555560000", "000666650000", "000555500000", "000555566600", "000555566660", "000666655500"};
+        int[][] xs = {{3, 4}, {4, 3}, {3, 3}, {3, 6}, {3, 7}, {6, 3}, {2, 0}, {0, 0}};
+        String[] rows = {"000555560000", "000666650000", "000555500000", "000555566600", "000555566660", "000666655500",
+            "666655000000", "555500000000"};
         for (int i = 0; i < xs.length; i++) {
             PocketConsole c = scene(5);
             Checks.put(c, 192, 0, xs[i][0], 1, 0, 0, xs[i][1], 2, 0);
@@ -312,11 +324,23 @@ public final class BoundaryPictureTest {
         Checks.due("x in DOT 12", d.video(2), 7);
         d.run(TO_LINE_8 - 13);
         Scenes.dueLine("off where it was to be fetched", d, 0, "550000000000");
+        // The same in line 1, after it was fetched in line 0: what was fetched then is not seen any more.
+        int[] program = new int[40];
+        System.arraycopy(new int[] {18, 247, 16, 1}, 0, program, 0, 4);
+        // Off in DOT 8 of line 1, on in its DOT 11.
+        System.arraycopy(new int[] {27, 19, 5, 1}, 0, program, 28 + 7, 4);
+        PocketConsole e = Scenes.onThen(program, 5);
+        prepare(e);
+        Checks.put(e, 192, 0, 5, 2, 0);
+        e.run(TO_LINE_8);
+        Scenes.dueLine("fetched in line 0", e, 0, "000006666000");
+        Scenes.dueLine("not fetched in line 1", e, 1, "000000000000");
+        Scenes.dueLine("fetched in line 2", e, 2, "000006666000");
     }
 
     private static void behindTheBackground() {
         Checks.sentence("or bit 2 of its look (as it was fetched) is on and the background is not 0");
-        for (int look : new int[] {0, 4, 248, 252}) {
+        for (int look : new int[] {0, 1, 4, 5, 248, 252}) {
             PocketConsole c = scene(13);
             Checks.put(c, 160, 5, 5, 5, 5);
             Checks.put(c, 192, 0, 2, 1, look);

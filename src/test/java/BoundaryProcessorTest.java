@@ -222,6 +222,10 @@ public final class BoundaryProcessorTest {
         c.run(11);
         Checks.due("A", c.cpu(0), 9);
         Checks.due("S from 255", c.cpu(3), 0);
+        c = Checks.with(15, 4, 7, 0, 99);
+        c.run(4);
+        Checks.due("A", c.cpu(0), 99);
+        Checks.due("S from 4", c.cpu(3), 5);
         Checks.sentence("4 RET: the cell at S is read, S is 1 more, nothing, PC is what was read");
         c = Checks.with(16, 99, 14, 255, 15, 255, 4);
         c.run(10);
@@ -340,6 +344,9 @@ public final class BoundaryProcessorTest {
             int[] a = {6, 5, 6, 11, 1, 4, 3, 6, 6, 6, 6, 11};
             Checks.due("the cell at P with k " + k, c.cell(100), cell[k]);
             Checks.due("A with k " + k, c.cpu(0), a[k]);
+            Checks.due("B with k " + k, c.cpu(1), 0);
+            Checks.due("P with k " + k, c.cpu(2), 100);
+            Checks.due("S with k " + k, c.cpu(3), 240);
         }
     }
 

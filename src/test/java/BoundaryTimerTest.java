@@ -118,6 +118,11 @@ public final class BoundaryTimerTest {
             Checks.due("TIMA counts on", c.cell(242), (tma + 1) % 256);
             Checks.due("a RELOAD due", c.timer(1), tma == 255 ? 1 : 0);
         }
+        // The other bits of IF stay.
+        PocketConsole c = Checks.with(Scenes.writes(245, 27, 242, 255, 244, 5));
+        c.put(12, 1);
+        c.run(17);
+        Checks.due("IF with 27 before", c.cell(245), 31);
     }
 
     private static void divIsAQuarter() {

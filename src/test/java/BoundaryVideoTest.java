@@ -372,6 +372,10 @@ public final class BoundaryVideoTest {
         for (int y = 0; y < 8; y++) {
             Scenes.dueLine("the picture", c, y, "333333333333");
         }
+        // The other bits of IF stay.
+        PocketConsole d = Scenes.on(1, 245, 30);
+        d.run(225);
+        Checks.due("IF with 30 before", d.cell(245), 31);
         // It is shown until the next one is complete.
         Scenes.tile(c, 0, 85, 85, 85, 85);
         c.run(335);
@@ -474,6 +478,10 @@ public final class BoundaryVideoTest {
         PocketConsole d = Scenes.onThen(Scenes.writeAtDot(20, 245, 0), 1, 252, 99, 248, 32);
         d.run(21);
         dueLineBit("goes on again", d, 28 - 20);
+        // The other bits of IF stay.
+        PocketConsole f = Scenes.on(1, 245, 29, 252, 99, 248, 32);
+        f.run(1);
+        Checks.due("IF with 29 before", f.cell(245), 31);
         // On through all of MODE 1: once.
         PocketConsole e = Scenes.onAt(28 * 8, Scenes.writes(245, 0), 1, 252, 99, 248, 16);
         e.run(5);
