@@ -18,6 +18,7 @@ public final class BoundaryProcessorTest {
         eiAndOff();
         eiAndInterrupt();
         jumpsOrNot();
+        cyclesWithoutTheCell();
         readWhereUsed();
         zeroIsOnForZero();
         kOfSums();
@@ -232,6 +233,9 @@ public final class BoundaryProcessorTest {
         Checks.due("PC", c.cpu(4), 99);
         Checks.due("S from 255", c.cpu(3), 0);
         Checks.due("IME", c.cpu(6), 0);
+        c = Checks.with(16, 7, 4);
+        Checks.due("cycles of 16 n and RET", c.run(3), 5);
+        Checks.due("A, which RET leaves", c.cpu(0), 7);
         Checks.sentence("5 the same, and IME is on");
         c = Checks.with(16, 99, 14, 255, 15, 255, 5);
         c.run(10);
@@ -244,6 +248,7 @@ public final class BoundaryProcessorTest {
         Checks.due("PC", c.cpu(4), 99);
         Checks.due("S from 0", c.cpu(3), 255);
         Checks.due("cell 255", c.cell(255), 4);
+        Checks.due("A, which CALL leaves", c.cpu(0), 0);
     }
 
     private static void firstByteMod64() {
@@ -273,8 +278,11 @@ public final class BoundaryProcessorTest {
             PocketConsole c = Checks.with(0, 0, 16, 99, 14, n, 16, 0, 13, n, 15, n);
             c.run(7);
             Checks.due("cell " + n, c.cell(n), 99);
+            c.put(99, 5);
             c.run(5);
             Checks.due("A", c.cpu(0), 99);
+            Checks.due("cell " + n + " after it was read", c.cell(n), 99);
+            Checks.due("cell 99, which reading leaves", c.cell(99), 5);
             c.run(2);
             Checks.due("S", c.cpu(3), n);
         }
@@ -329,6 +337,18 @@ public final class BoundaryProcessorTest {
             c.run(3);
             Checks.due("cycles of " + row[1] + " after " + row[0], c.run(1), 2 + row[2]);
             Checks.due("PC", c.cpu(4), row[2] == 1 ? 99 : 5);
+        }
+    }
+
+    private static void cyclesWithoutTheCell() {
+        Checks.sentence("Each reading, writing, \"nothing\" is a cycle, in the order said");
+        // Just k 0 has a second cycle, for n; k 1 is the one right after it.
+        for (int op = 16; op < 64; op++) {
+            if (op % 4 != 3) {
+                PocketConsole c = Checks.with(op, 100);
+                Checks.due("cycles of " + op, c.run(1), op < 20 ? 2 : 1);
+                Checks.due("PC after " + op, c.cpu(4), op < 20 ? 2 : 1);
+            }
         }
     }
 

@@ -523,6 +523,11 @@ public final class BoundaryVideoTest {
         PocketConsole d = Checks.with(Scenes.writes(251, 7));
         d.run(5);
         Checks.due("LY when off", d.cell(251), 0);
+        Checks.due("the register before it", d.cell(250), 0);
+        Checks.due("the register after it", d.cell(252), 0);
+        Checks.due("DMA", d.cell(253), 0);
+        Checks.due("cells to copy", d.timer(2), 0);
+        Checks.due("IF", d.cell(245), 0);
     }
 
     private static void shutInModes() {
