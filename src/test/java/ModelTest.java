@@ -7,6 +7,8 @@ import java.util.Random;
 public final class ModelTest {
     private static final int OBJECTS = 4000;
     private static final int MOST_CALLS = 512;
+    // For the last act, two close looks, and what main asks.
+    private static final int CALLS_KEPT = 70;
 
     private final Random random;
     private final PocketConsole real = new PocketConsole();
@@ -50,10 +52,32 @@ public final class ModelTest {
         for (int a = 0; a < 240; a++) {
             both("put(" + a + ", " + memory[a] + ")", real.put(a, memory[a]), model.put(a, memory[a]));
         }
-        while (good && calls < MOST_CALLS - 60) {
+        // The seed tells these again.
+        story.setLength(0);
+        // Some objects are looked at closely, so that a fault is told where it begins; the others are rather let live
+        // for long, with their keys, saves and loads.
+        boolean closely = random.nextInt(4) == 0;
+        while (good && calls < MOST_CALLS - CALLS_KEPT) {
             act();
-            observe();
+            if (closely) {
+                observe();
+            } else {
+                glance();
+            }
         }
+        observe();
+    }
+
+    private void glance() {
+        int what = near(0, 7);
+        switch (random.nextInt(4)) {
+            case 0: both("cpu(" + what + ")", real.cpu(what), model.cpu(what)); break;
+            case 1: both("timer(" + what + ")", real.timer(what), model.timer(what)); break;
+            case 2: both("video(" + what + ")", real.video(what), model.video(what)); break;
+            default: both("picture()", real.picture(), model.picture()); break;
+        }
+        int a = near(240, 255);
+        both("cell(" + a + ")", real.cell(a), model.cell(a));
     }
 
     private int near(int low, int high) {
@@ -233,12 +257,16 @@ public final class ModelTest {
         if (!good) {
             return;
         }
-        if (call.startsWith("run") || call.startsWith("reset") || got != want) {
+        if (!isLook(call) || got != want) {
             story.append(' ').append(call);
         }
         if (got != want) {
             story.append(" answered ").append(got).append(", due is ").append(want);
             good = false;
         }
+    }
+
+    private static boolean isLook(String call) {
+        return call.matches("(cell|cpu|timer|video|pixel|picture|count)\\(.*");
     }
 }
